@@ -1031,15 +1031,20 @@ public final class CausewayKept {
         }
 
         private boolean readNot(int open) {
-            if (token == NOT_KEY) {
-                if (open >= MOST_OPEN) {
-                    return false;
-                }
+            int nots = 0;
+            while (token == NOT_KEY && open + nots < MOST_OPEN) {
                 lookAtNext();
-                boolean sound = readNot(open + 1);
-                putStep(Steps.NOT, 0);
-                return sound;
+                nots++;
             }
+            // A not too many is left to look at, and can't stand there as a SUM either.
+            if (!readCompared(open + nots)) {
+                return false;
+            }
+            putSteps(Steps.NOT, nots);
+            return true;
+        }
+
+        private boolean readCompared(int open) {
             if (!readSum(open)) {
                 return false;
             }
@@ -1083,22 +1088,35 @@ public final class CausewayKept {
         }
 
         private boolean readOne(int open) {
+            int minuses = 0;
+            while (token == '-' && open + minuses < MOST_OPEN) {
+                lookAtNext();
+                minuses++;
+            }
+            if (!readBare(open + minuses)) {
+                return false;
+            }
+            putSteps(Steps.MINUS, minuses);
+            return true;
+        }
+
+        private boolean readBare(int open) {
             if (token == NUMBER_TOKEN || token == NAME_TOKEN) {
                 putStep(token == NUMBER_TOKEN ? Steps.PUSH_NUMBER : Steps.PUSH_NAME, value);
                 lookAtNext();
                 return true;
             }
-            if ((token != '-' && token != '(') || open >= MOST_OPEN) {
+            if (token != '(' || open >= MOST_OPEN) {
                 return false;
             }
-            if (token == '(') {
-                lookAtNext();
-                return readOr(open + 1) && passes(')');
-            }
             lookAtNext();
-            boolean sound = readOne(open + 1);
-            putStep(Steps.MINUS, 0);
-            return sound;
+            return readOr(open + 1) && passes(')');
+        }
+
+        private void putSteps(int sort, int times) {
+            for (int i = 0; i < times; i++) {
+                putStep(sort, 0);
+            }
         }
 
         private void putStep(int sort, int of) {

@@ -115,6 +115,10 @@ public final class BestTest {
         y.person(0, 0, 1);
         y.starts(0);
         due("not only where it is low", y.stands(1), 50);
+        CausewayKept calm = Check.ruled("paces 0; treads 0; doubts 40 * (not sea = 0);");
+        calm.person(0, 0, 1);
+        calm.starts(0);
+        due("only without a sea", calm.stands(1), 0);
         // one sinks and another is freed: that is nobody more
         CausewayKept z = Check.ruled("paces number; treads 0; doubts 40 * (number = 0);");
         z.person(0, 0, 1);
@@ -157,6 +161,13 @@ public final class BestTest {
         x.set(6, 2, 2);
         due("a sunk one can't be left at home", x.leave(1, 0), -1);
         due("and stays sunk", x.leave(1, 1), 1);
+        CausewayKept y = Check.ruled("paces 0; treads 0; doubts 40 * (number = 4);");
+        for (int i = 0; i < 5; i++) {
+            y.person(0, i, 1);
+            y.starts(i);
+        }
+        due("the last of five", y.leave(1, 0), 4);
+        due("then nobody of five", y.leave(1, 1), 0);
     }
 
     private static void means() {

@@ -157,6 +157,14 @@ public final class HostTest {
         due("none has room", x.family(2, INTS, 1, 5), 0);
         due("full, and outside", x.family(2, INTS, 16, 2), -12);
         due("five people", x.count(0), 5);
+        CausewayKept y = new CausewayKept();
+        Check.lay(y, 0, SHORTS, 1, 2, 1, 3, 4, -1, 5, 6, 1);
+        due("three by three", y.family(0, SHORTS, 0, 3), 3);
+        for (int i = 0; i < 3; i++) {
+            due("kind of " + i, y.told(i, 7), 2 * i + 1);
+            due("number of " + i, y.told(i, 3), 2 * i + 2);
+            due("way of " + i, y.told(i, 8), i == 1 ? 0 : 2);
+        }
     }
 
     private static void familyRefuses() {

@@ -25,7 +25,7 @@ public final class RoomTest {
     }
 
     private static long bytes() {
-        return ROOM.getThreadAllocatedBytes(Thread.currentThread().getId());
+        return ROOM.getCurrentThreadAllocatedBytes();
     }
 
     private static void due(String what, long got, long most) {

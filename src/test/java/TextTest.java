@@ -81,6 +81,18 @@ public final class TextTest {
         fault("paces doubt;treads x;", 19);
         fault("paces seamet;", 6);
         fault("paces sea met;", 10);
+        fault("paces seaz;", 6);
+        fault("paces sea{;", 9);
+        fault("paces sea`;", 9);
+        fault("paces asea;", 6);
+        fault("paces 1 doubts 2;", 8);
+        fault("paces 1 not 2;", 8);
+        fault("paces 1 treads 2;", 8);
+        fault("paces paces 2;", 6);
+        fault("paces and 2;", 6);
+        fault("paces or 2;", 6);
+        fault("paces 1/2;", 7);
+        fault("paces 1:2;", 7);
         fault("paces 9999; treads 00012; ", 19);
         fault("paces 99999;", 6);
         fault("paces 1 + 99999999999999999999;", 10);

@@ -7,6 +7,7 @@ public final class ToldTest {
         firstOtherwise();
         kindsAndNumbers();
         doubtsAndSeas();
+        theLastOnes();
         texts();
         emptyAndLong();
         refusals();
@@ -96,6 +97,21 @@ public final class ToldTest {
         due("the least sea that sinks one", x.tells(0, 0, 6), 30);
         due("the sea stays", x.told(0, 1), 10);
         due("the doubt stays", x.told(0, 4), 29);
+    }
+
+    private static void theLastOnes() {
+        String[] names = {"doubt", "sea"};
+        for (int k = 0; k < 2; k++) {
+            CausewayKept x = Check.ruled("paces 1 + (" + names[k] + " = 99) + 2 * (99 < " + names[k] + ");treads 0;doubts 0;");
+            x.person(0, 0, 1);
+            x.starts(0);
+            Check.lay(x, 0, INTS, 2);
+            due("only a " + names[k] + " of 99", x.tells(0, 0, 3 + 2 * k), 1);
+            due("which is the least", x.tells(0, 0, 4 + 2 * k), 99);
+            Check.lay(x, 0, INTS, 3);
+            due("no " + names[k] + " is more", x.tells(0, 0, 3 + 2 * k), 0);
+            due("so none is least", x.tells(0, 0, 4 + 2 * k), -1);
+        }
     }
 
     private static void texts() {
@@ -323,5 +339,7 @@ public final class ToldTest {
         for (int what = 0; what < 6; what++) {
             due("count(" + what + ")", x.count(what), want[what]);
         }
+        x.set(2, 0, 0);
+        due("the first place too", x.count(1), 3);
     }
 }

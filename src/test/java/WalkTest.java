@@ -108,6 +108,11 @@ public final class WalkTest {
         due("freed, and goes on in its own turn", x.told(3, 5), 4);
         due("freed by the freed one", x.told(4, 5), 5);
         due("on it", x.way(2), 4);
+        x.set(5, 0, 3);
+        x.set(6, 1, 0);
+        x.hour();
+        due("the first one is freed too", x.told(0, 6), 1);
+        due("but its turn was over", x.told(0, 5), 3);
     }
 
     private static void turns() {
@@ -290,6 +295,9 @@ public final class WalkTest {
         x.set(2, 31, 7);
         due("the last place", x.way(0), 31);
         due("how firm", x.way(1), 7);
+        x.set(2, 1, 6);
+        due("the second place", x.way(0), 1);
+        x.set(2, 1, 30);
         x.set(2, 12, 7);
         due("the first of two", x.way(0), 12);
         for (int i = 0; i < 5; i++) {

@@ -109,6 +109,8 @@ public final class WayTest {
         due("ON it and SUNK at 7", x.told(7, 12), 2 + 4);
         due("at 8", x.told(8, 12), 16);
         due("at 0", x.told(0, 12), 0);
+        x.set(6, 0, 2);
+        due("the first one too", x.told(7, 12), 1 + 2 + 4);
         due("at 31", x.told(31, 12), 0);
         due("hour, whoever", x.told(-9, 0), 0);
         due("sea, whoever", x.told(99, 1), 10);
@@ -201,6 +203,11 @@ public final class WayTest {
         due("met two: doubts", x.told(0, 11), 1000 - 2 - 10);
         due("the sunk one met two", x.told(2, 10), 2);
         x.set(6, 1, 3);
+        x.set(5, 2, 1);
+        x.set(5, 1, 1);
+        x.set(5, 2, 0);
+        due("met one: pace", x.told(0, 9), 4);
+        due("met one: doubts", x.told(0, 11), 1000 - 1 - 10);
         x.set(5, 2, 1);
         due("over and elsewhere: pace", x.told(0, 9), 2);
         due("over and elsewhere: doubts", x.told(0, 11), 1000);
