@@ -6,6 +6,7 @@ public final class TextTest {
         feeds();
         textsAreNumbered();
         faults();
+        behindTheEnd();
         depth();
         values();
         names();
@@ -120,6 +121,30 @@ public final class TextTest {
         fault("paces 3, treads", 7);
         fault("paces 1 - - 2; treads (1 < 2) < 3; doubts not 1 and not 2 < 3 or 4;", -1);
         fault("paces (not 1) + (2 or 3); treads - (1); doubts --1;", -1);
+    }
+
+    /** What an earlier tape left, or the tape's own end, is no part of a text. */
+    private static void behindTheEnd() {
+        CausewayKept x = new CausewayKept();
+        due("a long number", Check.read(x, "paces 1234"), -110);
+        due("a shorter one", Check.read(x, "paces 1"), -107);
+        due("a long word", Check.read(x, "paces number"), -112);
+        due("a shorter one of it", Check.read(x, "paces num"), -106);
+        due("blanks", Check.read(x, "paces      "), -111);
+        due("fewer blanks", Check.read(x, "paces "), -106);
+        String blanks = " ".repeat(160);
+        due("160 bytes to a number", Check.read(x, blanks.substring(10) + "paces 1234"), -260);
+        due("160 bytes to a word", Check.read(x, blanks.substring(9) + "paces sea"), -260);
+        due("160 bytes to a long number", Check.read(x, blanks.substring(11) + "paces 12345"), -255);
+        due("160 blanks", Check.read(x, blanks), -260);
+        due("160 minuses", Check.read(x, "paces " + "-".repeat(154)), -111);
+        due("160 opened", Check.read(x, "paces " + "(".repeat(154)), -111);
+        String text = "paces 1;treads 2;doubts " + "1+".repeat(67) + "9;";
+        due("160 bytes", text.length(), 160);
+        due("160 bytes are a text", Check.read(x, text), 1);
+        x.force(1);
+        x.person(0, 0, 1);
+        due("and are told", x.told(0, 11), 1076);
     }
 
     private static void depth() {
