@@ -148,6 +148,12 @@ final class TextSentences {
         doc.due("count(4)", x.count(4), 0);
         doc.due("an empty tape", x.text(), -100);
         doc.due("another text", Check.read(x, SOUND), 2);
+        doc.due("a number", Check.read(x, "paces 12345"), -106);
+        doc.due("what stood behind it is gone", Check.read(x, "paces 1234"), -110);
+        doc.due("a name", Check.read(x, "paces number"), -112);
+        doc.due("what stood behind it is gone, too", Check.read(x, "paces numbe"), -106);
+        doc.due("blanks", Check.read(x, "paces  "), -107);
+        doc.due("they are gone, too", Check.read(x, "paces "), -106);
         doc.due("feed", x.feed(' '), 1);
     }
 
@@ -240,6 +246,9 @@ final class TextSentences {
         faultOfE("1=1", SOUNDS);
         faultOfE("1or not1and-1", SOUNDS);
         faultOfE("seamet", 0);
+        faultOfE("seaz", 0);
+        faultOfE("zsea", 0);
+        faultOfE("asea", 0);
         faultOfE("sea met", 4);
         faultOfE("notnot 1", 0);
         faultOfE("1 andnot 1", 2);
@@ -357,6 +366,9 @@ final class TextSentences {
             faultOfE(name.substring(0, name.length() - 1), 0);
             faultOfE("1 " + name, 2);
             fault(name + " 1", 0);
+            for (int i = 0; i < name.length(); i++) {
+                faultOfE(name.substring(0, i) + "q" + name.substring(i + 1), 0);
+            }
         }
         faultOfE("Sea", 0);
         faultOfE("sEa", 0);
@@ -376,6 +388,17 @@ final class TextSentences {
         faultOfE("1 ors 1", 2);
         faultOfE("1 an 1", 2);
         faultOfE("no 1", 0);
+        for (int i = 0; i < SOUND.length(); i++) {
+            boolean key = SOUND.charAt(i) >= 'a' && SOUND.charAt(i) <= 'z';
+            fault(SOUND.substring(0, i) + (key ? 'q' : SOUND.charAt(i)) + SOUND.substring(i + 1),
+                !key ? SOUNDS : i < 5 ? 0 : i < 16 ? 10 : 21);
+        }
+        for (String other : new String[] {"1 qr 1", "1 oq 1", "1 qnd 1", "1 aqd 1", "1 anq 1"}) {
+            faultOfE(other, 2);
+        }
+        for (String other : new String[] {"qot 1", "nqt 1", "noq 1"}) {
+            faultOfE(other, 0);
+        }
         fault("pace 1;", 0);
         fault("pacess 1;", 0);
         fault("not 1;", 0);
@@ -412,6 +435,8 @@ final class TextSentences {
         fault("  ;", 2);
         fault(" ".repeat(154) + "paces ", 160);
         fault(" ".repeat(153) + "paces 1", 160);
+        fault(" ".repeat(151) + "paces sea", 160);
+        fault(" ".repeat(155) + "paces", 160);
         fault(" ".repeat(152) + "paces 1;", 160);
         fault(" ".repeat(152) + "paces 1)", 159);
     }

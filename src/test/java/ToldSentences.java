@@ -133,6 +133,7 @@ final class ToldSentences {
         CausewayKept more = one("paces 1 + (99 < " + name + " or " + name + " < 0);treads 99;doubts 0;", ON);
         Check.lay(more, 0, INTS, 2);
         doc.due("no " + name + " beyond", more.tells(0, 0, from), 0);
+        doc.due("none beyond is least", more.tells(0, 0, from + 1), -1);
         more.sheet(0, INTS, 0);
         doc.due("of a sheet of nothing", more.tells(0, 0, from), 100);
         doc.due("of a sheet of nothing, the least", more.tells(0, 0, from + 1), 0);

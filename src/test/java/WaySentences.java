@@ -80,6 +80,19 @@ final class WaySentences {
         return x;
     }
 
+    /** One who comes behind another, in doubt and sunk, who is gone by an image. */
+    private static CausewayKept comesAfterAnother(int way) {
+        CausewayKept x = new CausewayKept();
+        x.image();
+        x.person(4, 8, -way);
+        x.set(4, 0, 50);
+        x.set(5, 0, 7);
+        x.set(6, 0, 2);
+        x.back();
+        x.person(2, 3, way);
+        return x;
+    }
+
     // ---- promise 1
 
     private void placesAtFirst() {
@@ -289,18 +302,23 @@ final class WaySentences {
         doc.term(2, "DOUBT (0 .. 99; 0 as one comes)");
         canBeSet(4, 0, 0, 99);
         canBeSet(4, 1, 0, 99);
+        doc.due("as one comes", withPeople(1).told(0, 4), 0);
+        doc.due("as one comes where another was", comesAfterAnother(1).told(0, 4), 0);
     }
 
     private void placesOneCanBeSetAt() {
         doc.term(2, "are AT a PLACE (as one comes: 0 by WAY 1, 31 by WAY -1)");
         canBeSet(5, 0, 0, 31);
         canBeSet(5, 1, 31, 31);
+        doc.due("as one comes where another was, by WAY 1", comesAfterAnother(1).told(0, 5), 0);
+        doc.due("as one comes where another was, by WAY -1", comesAfterAnother(-1).told(0, 5), 31);
     }
 
     private void howOneCanBeSet() {
         doc.term(2, "HOW: 0 at HOME (so as one comes), 1 ON it, 2 SUNK, 3 OVER.");
         canBeSet(6, 0, 0, 3);
         canBeSet(6, 1, 0, 3);
+        doc.due("as one comes where another was", comesAfterAnother(1).told(0, 6), 0);
         CausewayKept x = withPeople(1);
         for (int how = 0; how <= 3; how++) {
             x.set(6, 0, how);
@@ -325,6 +343,10 @@ final class WaySentences {
             doc.due("where it is", x.told(i, 5), 31);
             doc.due("at home", x.told(i, 6), 0);
         }
+        CausewayKept y = comesAfterAnother(1);
+        doc.due("its kind, not another's", y.told(0, 7), 2);
+        doc.due("its number, not another's", y.told(0, 3), 3);
+        doc.due("its way, not another's", y.told(0, 8), 2);
     }
 
     private void kindsOfAPerson() {
