@@ -164,14 +164,57 @@ final class WaySentences {
         doc.due("BAD", CausewayKept.BAD, -2);
         doc.due("STATE", CausewayKept.STATE, -3);
         doc.due("FULL", CausewayKept.FULL, -4);
-        CausewayKept x = withPeople(5);
-        x.set(6, 0, 1);
+        CausewayKept x = fullOne();
+        CausewayKept twin = fullOne();
         doc.due("a sixth, of kind 6: BAD ahead of FULL", x.person(6, 0, 1), -2);
         doc.due("a sixth", x.person(0, 0, 1), -4);
         doc.due("one on it can't start", x.starts(0), -3);
         doc.due("nor one who is none such", x.starts(5), -2);
-        doc.due("five still", x.count(0), 5);
-        doc.due("one on it still", x.way(2), 1);
+        refusedCalls(x);
+        String[] names = {"hour", "sea", "firm", "number", "doubt", "at", "how", "kind", "way", "pace", "treads", "doubts", "who is at"};
+        for (int what = 0; what <= 12; what++) {
+            for (int of = 0; of < (what == 2 || what == 12 ? 32 : 5); of++) {
+                doc.due(names[what] + " of " + of + " as it was", x.told(of, what), twin.told(of, what));
+            }
+        }
+        for (int what = 0; what <= 5; what++) {
+            doc.due("count(" + what + ") as it was", x.count(what), twin.count(what));
+        }
+        for (int sheet = 0; sheet <= 3; sheet++) {
+            doc.due("sheet " + sheet + " as it was", x.places(sheet, 1), twin.places(sheet, 1));
+            doc.due("its sort and size as they were", x.copy(sheet, 0, 0, 0, 2), twin.copy(sheet, 0, 0, 0, 2));
+        }
+    }
+
+    /** One who is on it and four others, texts, a tape, sheets 0 of bytes and 1 of ints, and the last hour. */
+    private static CausewayKept fullOne() {
+        CausewayKept x = withPeople(5);
+        x.starts(0);
+        x.set(5, 1, 7);
+        for (int i = 1; i <= 5; i++) {
+            Check.read(x, "paces 1;treads 0;doubts 0;");
+        }
+        x.force(2);
+        Check.feed(x, "paces");
+        Check.lay(x, 0, 0, 7, 7);
+        Check.lay(x, 1, 2, 7, 7, 8);
+        x.set(0, 0, 999);
+        return x;
+    }
+
+    private void refusedCalls(CausewayKept x) {
+        int[][] answersAndRefusals = {
+            {x.set(0, 0, 1000), -2}, {x.set(2, 32, 1), -2}, {x.set(3, 0, 10), -2}, {x.set(6, 0, 4), -2}, {x.set(7, 0, 1), -2},
+            {x.person(0, 10, 1), -2}, {x.person(0, 0, 0), -2}, {x.told(0, 13), -1000}, {x.feed(256), -2}, {x.text(), -4},
+            {x.force(6), -2}, {x.hour(), -3}, {x.run(0, 61, 0), -2}, {x.arrives(5), -2}, {x.way(5), -2}, {x.shifts(13, 0), -2},
+            {x.stands(0), -2}, {x.leave(41, 0), -2}, {x.tells(2, 0, 0), -11}, {x.tells(0, 0, 8), -2}, {x.film(0, 0, 21), -2},
+            {x.film(2, 5, 1), -2}, {x.drawn(1, 41), -2}, {x.back(), -3}, {x.count(6), -2}, {x.sheet(0, 0, 41), -2},
+            {x.sheet(1, 3, 1), -2}, {x.sheet(0, 1, -1), -14}, {x.sheet(2, 2, -1), -14}, {x.cell(0, 2, 9), -12}, {x.cell(2, 0, 9), -11},
+            {x.copy(1, 0, 0, 0, 1), -13}, {x.copy(1, 2, 1, 0, 2), -12}, {x.copy(0, 0, 2, 0, 1), -11}, {x.family(0, 1, 0, 1), -13},
+            {x.family(2, 0, 0, 1), -11}, {x.family(0, 0, 0, 1), -12}, {x.taken(0, 6), -2}, {x.taken(5, 0), -11}, {x.taken(0, 1), -13}};
+        for (int i = 0; i < answersAndRefusals.length; i++) {
+            doc.due("refused call " + i, answersAndRefusals[i][0], answersAndRefusals[i][1]);
+        }
     }
 
     private void noneAndNo() {
